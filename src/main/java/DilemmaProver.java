@@ -584,7 +584,7 @@ public final class DilemmaProver {
     }
 
     private void close() {
-      if (!sees(RIGHT)) {
+      if (look() != RIGHT) {
         refuse(MISPLACED, start);
         return;
       }
@@ -786,17 +786,23 @@ public final class DilemmaProver {
     /** Unites what is of one class both there and there; both hold all that is held here. */
     void uniteCommon(Equivalence one, Equivalence other) {
       for (int v = 1; v < size; v++) {
-        for (int w = 0; w < v && isAlone(v); w++) {
-          int turn = one.standing[v] ^ one.standing[w];
-          if (turn <= 1 && turn == (other.standing[v] ^ other.standing[w])) {
-            unite(2 * v, 2 * w + turn);
-          }
+        // Where a variable stands for itself there is no lesser one to be united with.
+        if (!one.isLeast(v) && !other.isLeast(v)) {
+          uniteWithLesser(v, one, other);
         }
       }
     }
 
-    /** Whether no lesser variable is in the class: only such ones can still be new to another. */
-    private boolean isAlone(int v) {
+    private void uniteWithLesser(int v, Equivalence one, Equivalence other) {
+      for (int w = 0; w < v && isLeast(v); w++) {
+        int turn = one.standing[v] ^ one.standing[w];
+        if (turn <= 1 && turn == (other.standing[v] ^ other.standing[w])) {
+          unite(2 * v, 2 * w + turn);
+        }
+      }
+    }
+
+    private boolean isLeast(int v) {
       return standing[v] == 2 * v;
     }
   }

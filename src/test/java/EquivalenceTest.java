@@ -14,7 +14,12 @@ public final class EquivalenceTest {
     rounds();
     refusals();
     spending();
+    gatesOfConstants();
     dilemmas();
+    dilemmasThatBreakOnce();
+    likeThePlainProver("(a|~p|~q)&(a|~r|~s)&(~v|p)&(~v|q)&(v|r)&(v|s)");
+    likeThePlainProver("(a&b)|(a&~b)");
+    likeThePlainProver("(a|b|c)&(a^b^c)&(~a|~c)");
     CHECK.end();
   }
 
@@ -97,6 +102,7 @@ public final class EquivalenceTest {
     p.join(a, b);
     String title = text + " with " + a + " = " + b;
     CHECK.due(title + ": saturate", p.saturate(0, 1), 1);
+    CHECK.due(title + ": a round tells all, another makes none fewer", p.told(1), pairs.length == 0 ? 1 : 2);
     for (int i = 0; i + 1 < pairs.length; i += 2) {
       CHECK.due(title + ": " + pairs[i] + " = " + pairs[i + 1], p.join(pairs[i], pairs[i + 1]), 0);
     }
@@ -206,6 +212,39 @@ public final class EquivalenceTest {
     CHECK.due("the same end", p.count(3), classes);
   }
 
+  private static void gatesOfConstants() {
+    DilemmaProver p = new DilemmaProver();
+    p.gate(2, 0, 0);
+    p.gate(2, 0, 1);
+    p.gate(3, 1, 1);
+    p.gate(3, 0, 1);
+    CHECK.due("saturate", p.saturate(0, 1), 1);
+    CHECK.due("AND(0, 0)", p.stands(2), 0);
+    CHECK.due("AND(0, 1)", p.stands(4), 1);
+    CHECK.due("SAME(1, 1)", p.stands(6), 0);
+    CHECK.due("SAME(0, 1)", p.stands(8), 1);
+    CHECK.due("two rounds", p.told(1), 2);
+  }
+
+  /** One value of a is broken by b and c together, which no dilemma of another variable sees. */
+  private static void dilemmasThatBreakOnce() {
+    DilemmaProver p = with("(a|b)&(a|c)&(a|~b|~c)");
+    p.join(2 * p.count(0) - 2, 0);
+    CHECK.due("the branch of true comes first", p.saturate(1, 2), -6);
+    CHECK.due("and is not broken", p.told(3), 0);
+    CHECK.due("the branch of false is next", p.saturate(1, 3), -6);
+    CHECK.due("and is broken", p.told(3), 1);
+    CHECK.due("a is free still", p.stands(2), 2);
+    CHECK.due("to the end", p.saturate(1, 5000), 1);
+    CHECK.due("the branch of true is kept", p.stands(2), 0);
+    p = with("(~a|b)&(~a|c)&(~a|~b|~c)");
+    p.join(2 * p.count(0) - 2, 0);
+    CHECK.due("the branch of true comes first", p.saturate(1, 2), -6);
+    CHECK.due("and is broken", p.told(3), 1);
+    CHECK.due("to the end", p.saturate(1, 5000), 1);
+    CHECK.due("the branch of false is kept", p.stands(2), 1);
+  }
+
   private static void dilemmas() {
     // (a|b)&(a|~b) is true only if a is: depth 0 does not see it, a dilemma does.
     DilemmaProver p = with("(a|b)&(a|~b)");
@@ -221,6 +260,14 @@ public final class EquivalenceTest {
     CHECK.due("depth 1", p.saturate(1, 999), 1);
     CHECK.due("what both agree on is kept", p.stands(11), 2);
     CHECK.due("no branch broke", p.told(3), 0);
+    // v or not, a is true; but a false tells nothing of v: only the dilemma of v sees it.
+    p = with("a");
+    CHECK.due("v is the second", Check.readText(p, "v"), 4);
+    Check.readText(p, "(a|~p|~q)&(a|~r|~s)&(~v|p)&(~v|q)&(v|r)&(v|s)");
+    p.join(2 * p.count(0) - 2, 0);
+    CHECK.due("depth 1", p.saturate(1, 999), 1);
+    CHECK.due("a is true", p.stands(2), 0);
+    CHECK.due("no branch broke", p.told(3), 0);
     // All four of two: any value of either breaks.
     p = with("((a|b)&(a|~b))&((~a|b)&(~a|~b))");
     p.join(2 * p.count(0) - 2, 0);
@@ -230,5 +277,27 @@ public final class EquivalenceTest {
     CHECK.due("one pass, and it ended", p.told(2), 1);
     CHECK.due("no step behind it", p.told(0), 3);
     CHECK.due("a contradiction it is", p.stands(0), -3);
+  }
+
+  private static void likeThePlainProver(String text) {
+    DilemmaProver p = with(text);
+    PlainProver plain = new PlainProver();
+    for (int i = 0; i < text.length(); i++) {
+      plain.feed(text.charAt(i), 1);
+    }
+    int l = plain.read();
+    for (int depth = 0; depth <= 3; depth++) {
+      String title = text + " to " + depth;
+      p.forget();
+      plain.forget();
+      CHECK.due(title + ": join", p.join(l, 0), plain.join(l, 0));
+      CHECK.due(title + ": saturate", p.saturate(depth, 5000), plain.saturate(depth, 5000));
+      for (int what = 0; what < 4; what++) {
+        CHECK.due(title + ": told(" + what + ")", p.told(what), plain.told(what));
+      }
+      for (int literal = 0; literal < 2 * p.count(0); literal++) {
+        CHECK.due(title + ": stands(" + literal + ")", p.stands(literal), plain.stands(literal));
+      }
+    }
   }
 }

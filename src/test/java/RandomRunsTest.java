@@ -2,7 +2,7 @@ import java.util.Random;
 
 /** Long runs of all calls, drawn by fixed seeds, each answer compared with the plain prover's. */
 public final class RandomRunsTest {
-  private static final int RUNS = 500;
+  private static final int RUNS = 300;
   private static final int CALLS = 512;
   private static final int[] ODD = {
     -1, 0, 1, 2, 3, 4, 5, 8, 9, 14, 119, 120, 239, 240, 5000, 5001, Integer.MIN_VALUE, Integer.MAX_VALUE
@@ -42,6 +42,9 @@ public final class RandomRunsTest {
   }
 
   private void go() {
+    if (random.nextInt(6) == 0) {
+      fill(112 + random.nextInt(9));
+    }
     while (calls < CALLS && check.wrong() == 0) {
       step();
     }
@@ -49,8 +52,10 @@ public final class RandomRunsTest {
 
   private void step() {
     int kind = random.nextInt(100);
-    if (kind < 12) {
+    if (kind < 9) {
       readFormula(text());
+    } else if (kind < 12) {
+      proveTwins();
     } else if (kind < 20) {
       int gate = random.nextInt(12) == 0 ? odd() : 2 + random.nextInt(2);
       int a = literal();
@@ -63,7 +68,7 @@ public final class RandomRunsTest {
     } else if (kind < 45) {
       saturateAndTold();
     } else if (kind < 55) {
-      proveAndTold();
+      proveAndTold(literal(), depth(), steps());
     } else if (kind < 60) {
       lookAtAll();
     } else if (kind < 85) {
@@ -74,6 +79,29 @@ public final class RandomRunsTest {
       due("clear()", prover.clear(), plain.clear());
     } else {
       feedOdd();
+    }
+  }
+
+  /** Makes gates, so that the run goes on close to the end of the room for variables. */
+  private void fill(int variables) {
+    readFormula(formula(4));
+    while (plain.count(0) < variables) {
+      int kind = 2 + random.nextInt(2);
+      int a = random.nextInt(2 * plain.count(0));
+      int b = random.nextInt(2 * plain.count(0));
+      due("gate(" + kind + ", " + a + ", " + b + ")", prover.gate(kind, a, b), plain.gate(kind, a, b));
+    }
+  }
+
+  /** Proves that two formulas that have one value, but not one form, are the same. */
+  private void proveTwins() {
+    String[] twins = twins(1 + random.nextInt(3));
+    readFormula(twins[0] + "<->" + twins[1]);
+    int l = plain.read();
+    due("read() again", prover.read(), l);
+    if (l >= 0) {
+      proveAndTold(l, random.nextInt(5), 300);
+      due("model(" + l + ")", prover.model(l), plain.model(l));
     }
   }
 
@@ -111,10 +139,7 @@ public final class RandomRunsTest {
     due("count(3) behind " + call, prover.count(3), plain.count(3));
   }
 
-  private void proveAndTold() {
-    int l = literal();
-    int depth = depth();
-    int steps = steps();
+  private void proveAndTold(int l, int depth, int steps) {
     String call = "prove(" + l + ", " + depth + ", " + steps + ")";
     due(call, prover.prove(l, depth, steps), plain.prove(l, depth, steps));
     askTold(call);
@@ -223,6 +248,30 @@ public final class RandomRunsTest {
     String sign = SIGNS[random.nextInt(SIGNS.length)];
     String both = formula(depth - 1) + sign + formula(depth - 1);
     return kind < 6 ? "(" + both + ")" : both;
+  }
+
+  private String[] twins(int depth) {
+    if (depth == 0) {
+      String name = name();
+      return new String[] {name, name};
+    }
+    String[] a = twins(depth - 1);
+    String[] b = twins(depth - 1);
+    switch (random.nextInt(6)) {
+      case 0:
+        return new String[] {"(" + a[0] + "&" + b[0] + ")", "~(~" + b[1] + "|~" + a[1] + ")"};
+      case 1:
+        return new String[] {"(" + a[0] + "|" + b[0] + ")", "(~" + b[1] + "->" + a[1] + ")"};
+      case 2:
+        return new String[] {"(" + a[0] + "^" + b[0] + ")", "(" + a[1] + "&~" + b[1] + "|~" + a[1] + "&" + b[1] + ")"};
+      case 3:
+        return new String[] {"(" + a[0] + "<->" + b[0] + ")", "((" + a[1] + "->" + b[1] + ")&(" + b[1] + "->" + a[1] + "))"};
+      case 4:
+        return new String[] {"(" + a[0] + "->" + b[0] + ")", "(" + a[1] + "<->" + a[1] + "&" + b[1] + ")"};
+      default:
+        String c = name();
+        return new String[] {"(" + a[0] + "^" + b[0] + "^" + c + ")", "(" + c + "^" + a[1] + "^" + b[1] + ")"};
+    }
   }
 
   private String broken(String text) {
