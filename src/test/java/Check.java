@@ -3,6 +3,8 @@ final class Check {
   private static final int MOST_TOLD = 40;
 
   private final String title;
+  private String sentence = "";
+  private int askedOfIt = 1;
   private int asked = 0;
   private int wrong = 0;
 
@@ -10,24 +12,50 @@ final class Check {
     this.title = title;
   }
 
+  /** All that is asked from here on is asked of this sentence of the document. */
+  void sentence(String words) {
+    endSentence();
+    sentence = " [" + words + "]";
+    askedOfIt = 0;
+  }
+
+  /** A sentence of which nothing was asked would pass unseen. */
+  private void endSentence() {
+    if (askedOfIt == 0) {
+      fail("nothing is asked");
+    }
+  }
+
   void due(String what, long got, long want) {
-    asked++;
+    count();
     if (got != want) {
       fail(what + " answered " + got + ", due is " + want);
     }
   }
 
+  void due(String what, String got, String want) {
+    count();
+    if (!got.equals(want)) {
+      fail(what + " is\n  " + got + ", due is\n  " + want);
+    }
+  }
+
   void holds(String what, boolean holds) {
-    asked++;
+    count();
     if (!holds) {
       fail(what + " does not hold");
     }
   }
 
+  private void count() {
+    asked++;
+    askedOfIt++;
+  }
+
   private void fail(String line) {
     wrong++;
     if (wrong <= MOST_TOLD) {
-      System.out.println(title + ": " + line);
+      System.out.println(title + sentence + ": " + line);
     }
   }
 
@@ -36,6 +64,7 @@ final class Check {
   }
 
   void end() {
+    endSentence();
     System.out.println(title + ": " + asked + " answers, " + wrong + " not as due");
     if (asked == 0 || wrong != 0) {
       System.exit(1);
@@ -62,6 +91,49 @@ final class Check {
       v = v << 8 | part.charAt(i);
     }
     return v;
+  }
+
+  /** A prover with a text that no call has read yet. */
+  static DilemmaProver given(String text) {
+    DilemmaProver prover = new DilemmaProver();
+    give(prover, text);
+    return prover;
+  }
+
+  /** A prover that has read a text. */
+  static DilemmaProver having(String text) {
+    DilemmaProver prover = given(text);
+    prover.read();
+    return prover;
+  }
+
+  /**
+   * A prover that has read a text, and then gates AND(0, 0), AND(0, AND(0, 0)), .. till there are as
+   * many variables as wanted.
+   */
+  static DilemmaProver filled(String text, int variables) {
+    DilemmaProver prover = having(text);
+    int last = 0;
+    for (int v = prover.count(0); v < variables; v++) {
+      last = prover.gate(2, 0, last);
+    }
+    return prover;
+  }
+
+  /** All that can be asked of a prover without changing it; the text cannot be asked for so. */
+  static String seen(DilemmaProver prover) {
+    StringBuilder all = new StringBuilder("place ").append(prover.place());
+    for (int what = 0; what < 4; what++) {
+      all.append(" count ").append(prover.count(what)).append(" told ").append(prover.told(what));
+    }
+    for (int v = 0; v < prover.count(0); v++) {
+      all.append(" |");
+      for (int what = 0; what < 3; what++) {
+        all.append(" ").append(prover.variable(v, what));
+      }
+      all.append(" ").append(prover.sign(v, 0)).append(" = ").append(prover.stands(2 * v));
+    }
+    return all.toString();
   }
 
   static String repeat(String part, int times) {

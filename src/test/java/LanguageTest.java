@@ -23,7 +23,11 @@ public final class LanguageTest {
     for (Class<?> inner : DilemmaProver.class.getDeclaredClasses()) {
       innerClass(inner);
     }
-    words(Files.readString(Path.of("src/main/java/DilemmaProver.java")));
+    String code = code(Files.readString(Path.of("src/main/java/DilemmaProver.java")));
+    words(code);
+    library(code);
+    lengths(code);
+    CHECK.holds("at most twelve classes", DilemmaProver.class.getDeclaredClasses().length + 1 <= 12);
     CHECK.end();
   }
 
@@ -85,16 +89,53 @@ public final class LanguageTest {
     CHECK.holds(field + " is final if static", !Modifier.isStatic(modifiers) || Modifier.isFinal(modifiers));
   }
 
-  private static void words(String source) {
-    String code = source
-        .replaceAll("(?s)/\\*.*?\\*/", " ")
+  /** The source without what comments, texts and signs hold; its lines stay. */
+  private static String code(String source) {
+    Matcher comment = Pattern.compile("(?s)/\\*.*?\\*/").matcher(source);
+    return comment.replaceAll(found -> found.group().replaceAll("[^\n]", ""))
         .replaceAll("//[^\n]*", " ")
         .replaceAll("\"(\\\\.|[^\"\\\\])*\"", "\"\"")
         .replaceAll("'(\\\\.|[^'\\\\])'", "' '");
+  }
+
+  private static void words(String code) {
     Matcher word = Pattern.compile(
         "\\b(throw|throws|try|catch|finally|synchronized|assert|package|import|native|volatile|"
             + "transient|Object|Thread|Random|equals|hashCode|toString|var)\\b|->|::|Exact\\b").matcher(code);
     CHECK.holds("no word that is not to be" + (word.find() ? ": " + word.group() : ""), !word.reset().find());
     CHECK.holds("no while without a counter", !Pattern.compile("\\bwhile\\b").matcher(code).find());
+    CHECK.holds("no static block", !Pattern.compile("\\bstatic\\s*\\{").matcher(code).find());
+  }
+
+  private static void library(String code) {
+    Matcher call = Pattern.compile("\\b(Math|Long|Integer|System|Arrays)\\.(\\w+)").matcher(code);
+    Set<String> listed = Set.of("Math.min", "Math.max", "Long.numberOfTrailingZeros", "System.arraycopy");
+    while (call.find()) {
+      CHECK.holds(call.group() + " is listed", listed.contains(call.group()));
+    }
+    Matcher made = Pattern.compile("\\bnew (\\w+)").matcher(code);
+    Set<String> own = new TreeSet<>(Set.of("byte", "int", "long"));
+    for (Class<?> inner : DilemmaProver.class.getDeclaredClasses()) {
+      own.add(inner.getSimpleName());
+    }
+    while (made.find()) {
+      CHECK.holds(made.group() + " is a row or one of our own", own.contains(made.group(1)));
+    }
+  }
+
+  /** A method begins with a line that ends in "{" and holds "(" at the depth of a class's members. */
+  private static void lengths(String code) {
+    String[] lines = code.split("\n");
+    for (int i = 0; i < lines.length; i++) {
+      if (!lines[i].matches("( {2}| {4})\\w[^=;]*\\(.*\\) \\{") || lines[i].matches(" *(if|for|switch).*")) {
+        continue;
+      }
+      String end = lines[i].replaceAll("\\S.*", "") + "}";
+      int last = i;
+      while (last < lines.length - 1 && !lines[last].equals(end)) {
+        last++;
+      }
+      CHECK.holds(lines[i].trim() + " is short (" + (last - i + 1) + " lines)", last - i < 60);
+    }
   }
 }
