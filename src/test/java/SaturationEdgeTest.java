@@ -12,6 +12,7 @@ public final class SaturationEdgeTest {
     noPassAtDepth0();
     passesAsLongAsFewer();
     passGoesThroughTheFree();
+    passGoesToTheLast();
     trueFirst();
     bothBroken();
     oneBroken();
@@ -200,6 +201,26 @@ public final class SaturationEdgeTest {
     toldIs(p, 7, 7, 1, 0);
   }
 
+  private static void passGoesToTheLast() {
+    CHECK.sentence("the VARIABLES from 1 on are gone through (to the last that there is, and no further)");
+    // All gates are AND(0, ..): true by rounds. The last variable alone is free, and gone through.
+    DilemmaProver p = Check.filled("true", 119);
+    Check.readText(p, "b");
+    CHECK.due("variables", p.count(0), 120);
+    CHECK.due("saturate", p.saturate(1, 3), 1);
+    toldIs(p, 3, 4, 1, 0);
+    CHECK.due("the last is free", p.stands(239), 239);
+    CHECK.due("one step too few", p.saturate(1, 2), -6);
+    // What was there before clear() is not gone through.
+    p.clear();
+    Check.readText(p, "x");
+    CHECK.due("saturate behind clear()", p.saturate(1, 3), 1);
+    toldIs(p, 3, 3, 1, 0);
+    p.clear();
+    CHECK.due("of TRUE alone", p.saturate(4, 1), 1);
+    toldIs(p, 1, 1, 1, 0);
+  }
+
   private static void trueFirst() {
     CHECK.sentence("a copy in which 2 v and 0 are JOINED .., then another one in which 2 v and 1 are");
     DilemmaProver p = holding("(~a|b)&(~a|~b)");
@@ -269,6 +290,16 @@ public final class SaturationEdgeTest {
     int l = p.read();
     p.saturate(1, 999);
     CHECK.due("turned", p.stands(l), 5);
+    // Two ways to say "p if v, else q": only the dilemma of v sees that they are one.
+    DilemmaProver two = Check.having("(v&p)|(~v&q)");
+    int one = two.read();
+    int other = Check.readText(two, "(v->p)&(~v->q)");
+    CHECK.due("to depth 0", two.saturate(0, 1), 1);
+    CHECK.due("they are two", two.stands(other), other);
+    CHECK.due("to depth 1", two.saturate(1, 999), 1);
+    CHECK.due("they are one, of no known value", two.stands(other), two.stands(one));
+    CHECK.holds("no known value (" + two.stands(one) + ")", two.stands(one) > 1);
+    CHECK.due("and turned", two.stands(other ^ 1), two.stands(one ^ 1));
     // v or not, a is true; a false alone tells nothing of v.
     DilemmaProver q = Check.having("a");
     Check.readText(q, "v");
