@@ -446,7 +446,7 @@ public final class DilemmaProver {
       fault = 0;
       faultPlace = NONE;
       int literal = equality();
-      if (!sees(END)) {
+      if (look() != END) {
         refuse(MISPLACED, start);
       }
       return literal;
@@ -454,7 +454,7 @@ public final class DilemmaProver {
 
     private int equality() {
       int left = implication();
-      for (int i = 0; i < TEXT_ROOM && sees(EQUALS); i++) {
+      for (int i = 0; i < TEXT_ROOM && look() == EQUALS; i++) {
         int at = take();
         left = combine(EQUALS, at, left, implication());
       }
@@ -463,7 +463,7 @@ public final class DilemmaProver {
 
     private int implication() {
       int left = disjunction();
-      if (!sees(IMPLIES)) {
+      if (look() != IMPLIES) {
         return left;
       }
       int at = take();
@@ -477,7 +477,7 @@ public final class DilemmaProver {
 
     private int disjunction() {
       int left = difference();
-      for (int i = 0; i < TEXT_ROOM && sees(OR_SIGN); i++) {
+      for (int i = 0; i < TEXT_ROOM && look() == OR_SIGN; i++) {
         int at = take();
         left = combine(OR_SIGN, at, left, difference());
       }
@@ -486,7 +486,7 @@ public final class DilemmaProver {
 
     private int difference() {
       int left = conjunction();
-      for (int i = 0; i < TEXT_ROOM && sees(XOR_SIGN); i++) {
+      for (int i = 0; i < TEXT_ROOM && look() == XOR_SIGN; i++) {
         int at = take();
         left = combine(XOR_SIGN, at, left, conjunction());
       }
@@ -495,7 +495,7 @@ public final class DilemmaProver {
 
     private int conjunction() {
       int left = operand();
-      for (int i = 0; i < TEXT_ROOM && sees(AND_SIGN); i++) {
+      for (int i = 0; i < TEXT_ROOM && look() == AND_SIGN; i++) {
         int at = take();
         left = combine(AND_SIGN, at, left, operand());
       }
@@ -601,10 +601,6 @@ public final class DilemmaProver {
       return TRUE;
     }
 
-    private boolean sees(int wanted) {
-      return look() == wanted;
-    }
-
     private int look() {
       if (token == UNSEEN && fault == 0) {
         start = behindBlanks(next);
@@ -703,7 +699,7 @@ public final class DilemmaProver {
     }
 
     private static boolean isLetterOrDigit(int sign) {
-      return isLetter(sign) || (sign >= '0' && sign <= '9');
+      return (sign >= 'a' && sign <= 'z') || (sign >= '0' && sign <= '9');
     }
   }
 
@@ -928,9 +924,10 @@ public final class DilemmaProver {
       tallies[ROUNDS]++;
       before.copyFrom(held);
       for (int v = 1; v < circuit.size() && !held.isContradiction(); v++) {
-        int kind = circuit.kindOf(v);
-        if (kind == AND || kind == SAME) {
-          obey(held, kind, v);
+        if (circuit.kindOf(v) == AND) {
+          obeyAnd(held, v);
+        } else if (circuit.kindOf(v) == SAME) {
+          obeySame(held, v);
         }
       }
     }
@@ -939,21 +936,10 @@ public final class DilemmaProver {
      * The rules are asked of the literals that stood for the gate's own when the round began: two
      * were of one class if these are equal, and joining these joins the gate's own.
      */
-    private void obey(Equivalence held, int kind, int v) {
+    private void obeyAnd(Equivalence held, int v) {
       int x = before.standing(2 * v);
       int a = before.standing(circuit.firstOf(v));
       int b = before.standing(circuit.secondOf(v));
-      if (kind == AND) {
-        obeyAnd(held, x, a, b);
-        return;
-      }
-      // What SAME tells is told alike of any of the three and the other two.
-      obeySame(held, x, a, b);
-      obeySame(held, a, b, x);
-      obeySame(held, b, x, a);
-    }
-
-    private static void obeyAnd(Equivalence held, int x, int a, int b) {
       if (a == TRUE) {
         held.unite(x, b);
       }
@@ -980,18 +966,28 @@ public final class DilemmaProver {
       }
     }
 
-    private static void obeySame(Equivalence held, int x, int a, int b) {
-      if (x == TRUE) {
-        held.unite(a, b);
-      }
-      if (x == FALSE) {
-        held.unite(a, b ^ 1);
-      }
-      if (a == b) {
-        held.unite(x, TRUE);
-      }
-      if (a == (b ^ 1)) {
-        held.unite(x, FALSE);
+    /** What SAME tells is told alike of any of the three and the other two: each is x once. */
+    private void obeySame(Equivalence held, int v) {
+      int x = before.standing(2 * v);
+      int a = before.standing(circuit.firstOf(v));
+      int b = before.standing(circuit.secondOf(v));
+      for (int i = 0; i < 3; i++) {
+        if (x == TRUE) {
+          held.unite(a, b);
+        }
+        if (x == FALSE) {
+          held.unite(a, b ^ 1);
+        }
+        if (a == b) {
+          held.unite(x, TRUE);
+        }
+        if (a == (b ^ 1)) {
+          held.unite(x, FALSE);
+        }
+        int first = x;
+        x = a;
+        a = b;
+        b = first;
       }
     }
   }

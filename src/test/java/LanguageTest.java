@@ -5,7 +5,9 @@ import java.lang.reflect.Method;
 import java.lang.reflect.Modifier;
 import java.nio.file.Files;
 import java.nio.file.Path;
+import java.util.Map;
 import java.util.Set;
+import java.util.TreeMap;
 import java.util.TreeSet;
 import java.util.regex.Matcher;
 import java.util.regex.Pattern;
@@ -27,6 +29,7 @@ public final class LanguageTest {
     words(code);
     library(code);
     lengths(code);
+    callDepth(callsOf(code));
     CHECK.holds("at most twelve classes", DilemmaProver.class.getDeclaredClasses().length + 1 <= 12);
     CHECK.end();
   }
@@ -123,19 +126,91 @@ public final class LanguageTest {
     }
   }
 
-  /** A method begins with a line that ends in "{" and holds "(" at the depth of a class's members. */
   private static void lengths(String code) {
     String[] lines = code.split("\n");
     for (int i = 0; i < lines.length; i++) {
-      if (!lines[i].matches("( {2}| {4})\\w[^=;]*\\(.*\\) \\{") || lines[i].matches(" *(if|for|switch).*")) {
-        continue;
+      if (beginsMethod(lines[i])) {
+        int length = endOfMethod(lines, i) - i + 1;
+        CHECK.holds(lines[i].trim() + " is short (" + length + " lines)", length <= 60);
       }
-      String end = lines[i].replaceAll("\\S.*", "") + "}";
-      int last = i;
-      while (last < lines.length - 1 && !lines[last].equals(end)) {
-        last++;
-      }
-      CHECK.holds(lines[i].trim() + " is short (" + (last - i + 1) + " lines)", last - i < 60);
     }
+  }
+
+  /** A method begins with a line that ends in "{" and holds "(" at the depth of a class's members. */
+  private static boolean beginsMethod(String line) {
+    return line.matches("( {2}| {4})\\w[^=;]*\\(.*\\) \\{") && !line.matches(" *(if|for|switch).*");
+  }
+
+  private static int endOfMethod(String[] lines, int first) {
+    String end = lines[first].replaceAll("\\S.*", "") + "}";
+    int last = first;
+    while (last < lines.length - 1 && !lines[last].equals(end)) {
+      last++;
+    }
+    return last;
+  }
+
+  /** Which methods call which, by name; methods of one name are taken for one. */
+  private static Map<String, Set<String>> callsOf(String code) {
+    Pattern called = Pattern.compile("\\b(\\w+)\\(");
+    Map<String, Set<String>> calls = new TreeMap<>();
+    String[] lines = code.split("\n");
+    for (int i = 0; i < lines.length; i++) {
+      if (beginsMethod(lines[i])) {
+        Matcher name = called.matcher(lines[i]);
+        CHECK.holds(lines[i] + " has a name", name.find());
+        Set<String> all = calls.computeIfAbsent(name.group(1), one -> new TreeSet<>());
+        for (int k = i + 1; k < endOfMethod(lines, i); k++) {
+          called.matcher(lines[k]).results().forEach(found -> all.add(found.group(1)));
+        }
+      }
+    }
+    calls.values().forEach(all -> all.retainAll(calls.keySet()));
+    return calls;
+  }
+
+  private static void callDepth(Map<String, Set<String>> calls) {
+    Map<String, Set<String>> reached = reachedBy(calls);
+    for (String name : calls.keySet()) {
+      int deep = depthFrom(name, calls, reached);
+      CHECK.holds(name + " goes at most eight deep (" + deep + ")", deep <= 8);
+      int level = levelOf(name, reached).size();
+      // A level is opened by one of at most 40 signs, or is the first; a few calls go beside them.
+      CHECK.holds(name + " has under 300 calls open (" + level + " a level)", 41 * level + 8 < 300);
+    }
+    CHECK.holds("calls are seen", depthFrom("prove", calls, reached) > 4);
+    CHECK.holds("levels are seen", levelOf("operand", reached).contains("equality"));
+  }
+
+  private static Map<String, Set<String>> reachedBy(Map<String, Set<String>> calls) {
+    Map<String, Set<String>> reached = new TreeMap<>();
+    calls.forEach((name, all) -> reached.put(name, new TreeSet<>(all)));
+    for (String through : calls.keySet()) {
+      for (Set<String> all : reached.values()) {
+        if (all.contains(through)) {
+          all.addAll(reached.get(through));
+        }
+      }
+    }
+    return reached;
+  }
+
+  /** Methods that call one another are one level of a recursion. */
+  private static Set<String> levelOf(String name, Map<String, Set<String>> reached) {
+    Set<String> level = new TreeSet<>(Set.of(name));
+    reached.get(name).stream().filter(one -> reached.get(one).contains(name)).forEach(level::add);
+    return level;
+  }
+
+  /** A level counts as one call: what goes deep there is recursion. */
+  private static int depthFrom(String name, Map<String, Set<String>> calls, Map<String, Set<String>> reached) {
+    Set<String> level = levelOf(name, reached);
+    int deepest = 0;
+    for (String one : level) {
+      for (String next : calls.get(one)) {
+        deepest = level.contains(next) ? deepest : Math.max(deepest, depthFrom(next, calls, reached));
+      }
+    }
+    return 1 + deepest;
   }
 }

@@ -20,6 +20,8 @@ public final class SaturationEdgeTest {
     relationsOfBoth();
     stepsWithinOthers();
     deeperIsMore();
+    depthsOfFreeInputs();
+    asDeepAsCanBe();
     CHECK.end();
   }
 
@@ -336,5 +338,55 @@ public final class SaturationEdgeTest {
     q.join(q.read(), 1);
     CHECK.due("depth 2 is not enough", q.saturate(2, 5000), 1);
     CHECK.due("depth 3 is", q.saturate(3, 5000), 0);
+  }
+
+  private static void depthsOfFreeInputs() {
+    CHECK.sentence("is SATURATED to depth k - 1, then another one (as deep as 4)");
+    DilemmaProver p = Check.having("a");
+    for (String name : new String[] {"b", "c", "d", "e"}) {
+      Check.readText(p, name);
+    }
+    // With n free and depth k: S(n, k) = 1 + 2 n S(n - 1, k - 1) steps, and S(n, 0) = 1;
+    // P(n, k) = 1 + 2 n P(n - 1, k - 1) passes, and P(n, 0) = 0. No round finds anything.
+    int[][] due = {{1, 0}, {11, 1}, {91, 11}, {571, 91}, {2491, 571}};
+    for (int depth = 0; depth <= 4; depth++) {
+      int steps = due[depth][0];
+      CHECK.due("depth " + depth + " with one step too few", p.saturate(depth, steps - 1), -6);
+      CHECK.due("depth " + depth + " with enough", p.saturate(depth, steps), 1);
+      toldIs(p, steps, steps, due[depth][1], 0);
+    }
+    CHECK.due("nothing was joined", p.count(3), 12);
+  }
+
+  private static void asDeepAsCanBe() {
+    CHECK.sentence("SATURATED to depth 4: a CONTRADICTION that is met when four values are tried");
+    DilemmaProver p = Check.having("a");
+    for (String name : new String[] {"b", "c", "d", "e"}) {
+      Check.readText(p, name);
+    }
+    // All 32 clauses of five inputs: with four of them known, two clauses want both values of e.
+    StringBuilder all = new StringBuilder("true");
+    for (int n = 0; n < 32; n++) {
+      all.append("&(");
+      for (int i = 0; i < 5; i++) {
+        all.append(i == 0 ? "" : "|").append((n >> (4 - i) & 1) == 0 ? "" : "~").append("abcde".charAt(i));
+      }
+      all.append(")");
+    }
+    int l = Check.readText(p, all.toString());
+    CHECK.due("no assignment makes it true", p.alike(l, 1), 1);
+    p.join(l, 0);
+    CHECK.due("one step too few", p.saturate(4, 30), -6);
+    CHECK.due("depth 4", p.saturate(4, 31), 0);
+    // 1, 2 of a, 4 of b, 8 of c and 16 of d, all branches broken; passes wherever depth is left.
+    CHECK.due("steps", p.told(0), 31);
+    CHECK.due("passes", p.told(2), 15);
+    CHECK.due("broken branches", p.told(3), 30);
+    CHECK.due("it is kept", p.count(3), -3);
+    for (int depth = 0; depth < 4; depth++) {
+      p.forget();
+      p.join(l, 0);
+      CHECK.holds("31 steps to depth " + depth + " find none", p.saturate(depth, 31) != 0);
+    }
   }
 }
